@@ -196,6 +196,7 @@ final class HostTest {
         actDue(x, 0, 7, -9, 51, 10);
         actDue(x, 1, 7, -18, 11, 51, 10);
         actDue(x, 2, 7, 3 ^ 1, 50, 12);
+        actDue(x, 2, 6, 2 ^ 1, 50, 12);
         actDue(x, 2, Integer.MAX_VALUE, (Integer.MIN_VALUE + 1) / 3 ^ 1, 50, 12);
         actDue(x, 3, 7, -18 ^ 5, 13, 11, 51, 10);
         x = withKind(5, 5);

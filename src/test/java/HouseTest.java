@@ -66,6 +66,8 @@ final class HouseTest {
         Check.houseDue("day*/3", -104);
         Check.houseDue("day 3<4", -104);
         Check.houseDue("days<3", -100);
+        Check.houseDue("dayz<3", -100);
+        Check.houseDue("bay<3", -100);
         Check.houseDue("Day<3", -100);
         Check.houseDue("day<3\t", -105);
         Check.houseDue("day<00003", -104);
@@ -193,6 +195,12 @@ final class HouseTest {
             Check.house(y, "signed=" + h);
         }
         Check.due("a house a round", y.sign(), 255);
+        LoosePlug later = new LoosePlug();
+        Check.house(later, "day=2 and signed=0");
+        later.later(1);
+        Check.due("not yet", later.sign(), 0);
+        later.later(1);
+        Check.due("the facts of today", later.sign(), 1);
         LoosePlug z = new LoosePlug();
         Check.house(z, "signed<1");
         Check.house(z, "signed<1");

@@ -122,6 +122,17 @@ final class KeptTest {
         y.keep();
         y.part(0, 1, 2, 2, 2);
         y.back();
+        y.fail(0, 4, 1);
+        y.keep();
+        y.fail(0, 4, 0);
+        y.fail(0, 4, 9);
+        y.back();
+        y.run(0);
+        Check.due("from which day it is off", y.ran(0, 2), 4);
+        y.part(0, 1, 2, 2, 2);
+        y.fail(1, 8, 0);
+        y.tryout(1, false);
+        y.back();
         Check.due("a new part where one went", y.part(3, 2, 5, 6, 7), 1);
         Check.due("its kind", y.of(1, 0), 3);
         Check.due("not tried", y.of(1, 6), 0);

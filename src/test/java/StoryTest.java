@@ -86,6 +86,14 @@ final class StoryTest {
         Check.storyDue("part 1 from 1 by 1", -107);
         Check.storyDue("part 1 by 1 or part 2 by 2", -112);
         Check.storyDue("parts 1 by 1", -100);
+        Check.storyDue("partz 1 by 1", -100);
+        Check.storyDue("part 1 zby 1", -107);
+        Check.storyDue("part 1 ay 1", -107);
+        Check.storyDue("part 1 by 1 anda", -112);
+        Check.storyDue("part{1 by 1", -104);
+        Check.storyDue("part`1 by 1", -104);
+        Check.storyDue("part 1 by 1:", -111);
+        Check.storyDue("part 1 by 1/", -111);
         Check.storyDue("part 1 bye 1", -107);
         Check.storyDue("Part 1 by 1", -100);
         Check.storyDue("part\t1 by 1", -104);

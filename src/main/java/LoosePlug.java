@@ -873,9 +873,10 @@ public final class LoosePlug {
             return set >>> storyCount == 0;
         }
 
+        /** A quiet world draws too: the lot goes on, and 0 is drawn. */
         int draw() {
             lot = lot * 1103515245 + 12345;
-            return (lot >>> 16) % (2 * noise + 1) - noise;
+            return noise > 0 ? (lot >>> 16) % (2 * noise + 1) - noise : 0;
         }
 
         /** The caller has seen that there is room. */

@@ -2,8 +2,14 @@
 final class Check {
     private static int wrong = 0;
     private static int asked = 0;
+    private static String subject = "";
 
     private Check() {
+    }
+
+    /** Which words of the document the answers that follow are about; a wrong answer is told with them. */
+    static void about(String words) {
+        subject = "\"" + words + "\": ";
     }
 
     static void due(String call, long got, long want) {
@@ -11,7 +17,7 @@ final class Check {
         if (got != want) {
             wrong++;
             if (wrong <= 50) {
-                System.out.println(call + " answered " + got + ", due is " + want);
+                System.out.println(subject + call + " answered " + got + ", due is " + want);
             }
         }
     }

@@ -26,6 +26,15 @@ final class Check {
         due(what, is ? 1 : 0, 1);
     }
 
+    /** A new plug, on this day. */
+    static LoosePlug onDay(int day) {
+        LoosePlug x = new LoosePlug();
+        for (int left = day; left > 0; left -= Math.min(99, left)) {
+            x.later(Math.min(99, left));
+        }
+        return x;
+    }
+
     /** Puts a text on the tape, eight bytes a call, and checks how many the tape is told to have. */
     static void feed(LoosePlug plug, String text) {
         int before = plug.many(5);

@@ -22,22 +22,14 @@ final class EdgesOfChain {
         promises10and11();
     }
 
-    private static LoosePlug onDay(int day) {
-        LoosePlug x = new LoosePlug();
-        for (int left = day; left > 0; left -= Math.min(99, left)) {
-            x.later(Math.min(99, left));
-        }
-        return x;
-    }
-
     private static void theDay() {
         Sentence.says("THE DAY is 0 at first, 999 at most.");
         Check.due("at first", new LoosePlug().many(7), 0);
-        LoosePlug x = onDay(998);
+        LoosePlug x = Check.onDay(998);
         Check.due("999", x.later(1), 999);
         Check.due("1000", x.later(1), FULL);
         Check.due("still", x.many(7), 999);
-        Check.due("from 998 by 2", onDay(998).later(2), FULL);
+        Check.due("from 998 by 2", Check.onDay(998).later(2), FULL);
     }
 
     private static void howManyParts() {
@@ -134,7 +126,7 @@ final class EdgesOfChain {
 
     private static void whatAPartTakes() {
         Sentence.says("What a PART TAKES on a day: ahead of its day PAPER; then PAPER and OFF;");
-        LoosePlug x = onDay(9);
+        LoosePlug x = Check.onDay(9);
         for (int kind = 0; kind < 7; kind++) {
             x.part(kind, 1, 70, 1, 1);
             Check.due("ahead of its day, kind " + kind, x.fail(kind, 30, 10), 70);
@@ -152,7 +144,7 @@ final class EdgesOfChain {
         Check.due("the day itself", x.ran(1, 2), others + 3 + 5);
 
         Sentence.says("a DRIFTING one PAPER and OFF times how many days since its day, by 10.");
-        LoosePlug y = onDay(999);
+        LoosePlug y = Check.onDay(999);
         y.part(DRIFTING, 1, 9999, 1, 1);
         Check.due("no day since", y.fail(0, 500, 999), 9999);
         Check.due("a day since", y.fail(0, 500, 998), 9999 + 50);
@@ -239,7 +231,7 @@ final class EdgesOfChain {
 
     private static void howManyRuns() {
         Sentence.says("RUNS 0 to 39, as they come (OLDER ones are told): a day, a WAY, SOON.");
-        LoosePlug x = onDay(50);
+        LoosePlug x = Check.onDay(50);
         for (int r = 0; r < 40; r++) {
             Check.due("not yet", x.ran(r, 0), NO);
             boolean told = r % 3 == 0;
@@ -256,7 +248,7 @@ final class EdgesOfChain {
 
     private static void trials() {
         Sentence.says("A TRIAL of a PART, today: by itself: BELIEVED becomes what it TAKES.");
-        LoosePlug x = onDay(4);
+        LoosePlug x = Check.onDay(4);
         for (int kind = 0; kind < 7; kind++) {
             x.part(kind, 1, 100, 1, 2);
             x.fail(kind, 20, 5);
@@ -320,10 +312,10 @@ final class EdgesOfChain {
             Check.due("of what " + what, x.of(2, what), due[what]);
         }
         Check.due("never tried", x.of(1, 6), 0);
-        refusedWithPart("of what -1", p -> p.of(0, -1));
-        refusedWithPart("of what 7", p -> p.of(0, 7));
-        refusedWithPart("of the most", p -> p.of(0, MOST));
-        refusedWithPart("of the least", p -> p.of(0, LEAST));
+        Refused.always("of what -1", NO, p -> p.of(0, -1));
+        Refused.always("of what 7", NO, p -> p.of(0, 7));
+        Refused.always("of the most", NO, p -> p.of(0, MOST));
+        Refused.always("of the least", NO, p -> p.of(0, LEAST));
         Refused.always("of part -1", NO, p -> p.of(-1, 0));
         Refused.always("of part 10", NO, p -> p.of(10, 0));
         Refused.in(Refused.World.MIDDLE, "of a part that isn't yet", NO, p -> p.of(5, 0));
@@ -332,10 +324,10 @@ final class EdgesOfChain {
         Check.due("from day 0", x.fail(0, 8, 0), 9);
         Check.due("from day 999", x.fail(0, 8, 999), 1);
         Check.due("what is said later counts", x.fail(0, 3, 0), 4);
-        refusedWithPart("from day -1", p -> p.fail(0, 1, -1));
-        refusedWithPart("from day 1000", p -> p.fail(0, 1, 1000));
-        refusedWithPart("from day most", p -> p.fail(0, 1, MOST));
-        refusedWithPart("from day least", p -> p.fail(0, 1, LEAST));
+        Refused.always("from day -1", NO, p -> p.fail(0, 1, -1));
+        Refused.always("from day 1000", NO, p -> p.fail(0, 1, 1000));
+        Refused.always("from day most", NO, p -> p.fail(0, 1, MOST));
+        Refused.always("from day least", NO, p -> p.fail(0, 1, LEAST));
         Refused.always("of part -1", NO, p -> p.fail(-1, 1, 0));
         Refused.always("of part 10", NO, p -> p.fail(10, 1, 0));
         Refused.in(Refused.World.MIDDLE, "of a part that isn't yet", NO, p -> p.fail(5, 1, 0));
@@ -347,15 +339,10 @@ final class EdgesOfChain {
         for (int n : bad) {
             Refused.always("later(" + n + ")", BAD, p -> p.later(n));
         }
-        Check.due("just 999", onDay(900).later(99), 999);
-        Check.due("just above", onDay(901).later(99), FULL);
+        Check.due("just 999", Check.onDay(900).later(99), 999);
+        Check.due("just above", Check.onDay(901).later(99), FULL);
         Refused.in(Refused.World.FULL, "1 day more", FULL, p -> p.later(1));
         Refused.in(Refused.World.FULL, "99 days more", FULL, p -> p.later(99));
-    }
-
-    /** Refused though there is a part 0 in two of the worlds. */
-    private static void refusedWithPart(String call, Refused.Ask ask) {
-        Refused.always(call, NO, ask);
     }
 
     private static void promises6to9() {
@@ -393,7 +380,7 @@ final class EdgesOfChain {
 
         Sentence.says("A RUN of an OLDER day (THE DAY at most) is told: its number. "
                 + "BAD: day, way, soon isn't -9999 to 9999; FULL.");
-        LoosePlug y = onDay(6);
+        LoosePlug y = Check.onDay(6);
         Check.due("THE DAY", y.older(6, 0, 9999), 0);
         Check.due("the day behind", y.older(7, 0, 0), BAD);
         Check.due("day 0", y.older(0, 1, -9999), 1);
@@ -413,7 +400,7 @@ final class EdgesOfChain {
 
     private static void promises10and11() {
         Sentence.says("Of a RUN: what = 0 its day, 1 WAY, 2 SOON. NO.");
-        LoosePlug x = onDay(8);
+        LoosePlug x = Check.onDay(8);
         x.older(5, 1, -77);
         int[] due = {5, 1, -77};
         for (int what = 0; what < 3; what++) {

@@ -35,43 +35,34 @@ final class EdgesOfHost {
         return x;
     }
 
-    private static void actDue(LoosePlug x, int act, int v, int want, int... bodies) {
-        String call = "act(0, " + act + ", " + v + ")";
-        Check.due(call, x.act(0, act, v), want);
-        Check.due(call + " bodies", x.many(6), bodies.length);
-        for (int k = 0; k < bodies.length; k++) {
-            Check.due(call + " body " + k, x.trace(k), bodies[k]);
-        }
-        Check.due(call + " no more", x.trace(bodies.length), NONE);
-    }
-
     private static void acts() {
         Sentence.says("ACTS of things, with a number x (ints that wrap): 0 takes, 1 shares, 2 bounds, 3 tells.");
         LoosePlug x = withPart(1, PART, 4);
-        actDue(x, TAKES, MOST, LEAST, 10);
-        actDue(x, TAKES, MOST - 1, MOST, 10);
-        actDue(x, SHARES, (1 << 30) - 1, LEAST, 11, 10);
-        actDue(x, SHARES, (1 << 30) - 2, MOST - 1, 11, 10);
-        actDue(x, BOUNDS, LEAST, LEAST / 3, 12);
-        actDue(x, TELLS, (1 << 30) - 1, LEAST ^ 4, 13, 11, 10);
+        HostTest.actDue(x, TAKES, MOST, LEAST, 10);
+        HostTest.actDue(x, TAKES, MOST - 1, MOST, 10);
+        HostTest.actDue(x, SHARES, (1 << 30) - 1, LEAST, 11, 10);
+        HostTest.actDue(x, SHARES, (1 << 30) - 2, MOST - 1, 11, 10);
+        HostTest.actDue(x, BOUNDS, LEAST, LEAST / 3, 12);
+        HostTest.actDue(x, TELLS, (1 << 30) - 1, LEAST ^ 4, 13, 11, 10);
         LoosePlug loose = withPart(1, LOOSE, 4);
-        actDue(loose, TAKES, MOST, LEAST, 51, 10);
-        actDue(loose, BOUNDS, MOST - 1, (LEAST / 3) ^ 1, 50, 12);
-        actDue(withPart(1, SHORT, 2), BOUNDS, MOST - 2, (MOST ^ 1) * 2, 61, 50, 12);
-        actDue(withPart(1, TAKEN, 4), TAKES, MOST, LEAST * 3, 30, 10);
-        actDue(withPart(1, TRIED, 4), SHARES, (1 << 30) - 1, MOST - 3, 20, 11, 10);
-        actDue(withPart(1, OTHER, 4), TAKES, LEAST, MOST - 2, 70, 10);
+        HostTest.actDue(loose, TAKES, MOST, LEAST, 51, 10);
+        HostTest.actDue(loose, BOUNDS, MOST - 1, (LEAST / 3) ^ 1, 50, 12);
+        HostTest.actDue(withPart(1, SHORT, 2), BOUNDS, MOST - 2, (MOST ^ 1) * 2, 61, 50, 12);
+        HostTest.actDue(withPart(1, TAKEN, 4), TAKES, MOST, LEAST * 3, 30, 10);
+        HostTest.actDue(withPart(1, TRIED, 4), SHARES, (1 << 30) - 1, MOST - 3, 20, 11, 10);
+        HostTest.actDue(withPart(1, OTHER, 4), TAKES, LEAST, MOST - 2, 70, 10);
 
         Sentence.says("n: the number of the PART, a: its SPAN.");
         for (int n = 0; n < 10; n++) {
-            actDue(withPart(n, PART, 99), TAKES, 100, 100 + n, 10);
-            actDue(withPart(n, TRIED, 99), SHARES, 0, 2 * n - 99, 20, 11, 10);
-            actDue(withPart(n, TRIED, 0), SHARES, 0, 2 * n, 20, 11, 10);
+            HostTest.actDue(withPart(n, PART, 99), TAKES, 100, 100 + n, 10);
+            HostTest.actDue(withPart(n, TRIED, 99), SHARES, 0, 2 * n - 99, 20, 11, 10);
+            HostTest.actDue(withPart(n, TRIED, 0), SHARES, 0, 2 * n, 20, 11, 10);
         }
     }
 
     private static void kindsUnderKinds() {
-        Sentence.says("BODIES, each with its number, by KINDS: tried, taken, drifting, loose under part; short under loose; other under tried.");
+        Sentence.says("BODIES, each with its number, by KINDS: tried, taken, drifting, loose under part; short under "
+                + "loose; other under tried.");
         int[] above = {-1, PART, PART, PART, PART, LOOSE, TRIED};
         for (int kind = 0; kind < 7; kind++) {
             LoosePlug x = withPart(0, kind, 9);
@@ -85,82 +76,83 @@ final class EdgesOfHost {
     private static void bodiesOfPart() {
         Sentence.says("part: 10 takes: x + n. 11 shares: takes(x) * 2.");
         LoosePlug x = withPart(2, PART, 5);
-        actDue(x, TAKES, 7, 9, 10);
-        actDue(x, TAKES, -2, 0, 10);
-        actDue(x, SHARES, 7, 18, 11, 10);
+        HostTest.actDue(x, TAKES, 7, 9, 10);
+        HostTest.actDue(x, TAKES, -2, 0, 10);
+        HostTest.actDue(x, SHARES, 7, 18, 11, 10);
         Sentence.says("12 bounds: x by (a - n), the rest away (-15 if these are the same; that is all that act() answers then).");
-        actDue(x, BOUNDS, 2, 0, 12);
-        actDue(x, BOUNDS, 3, 1, 12);
-        actDue(x, BOUNDS, -2, 0, 12);
-        actDue(x, BOUNDS, -3, -1, 12);
-        actDue(withPart(2, PART, 3), BOUNDS, 9, 9, 12);
-        actDue(withPart(2, PART, 2), BOUNDS, 9, -15, 12);
-        actDue(withPart(2, PART, 2), BOUNDS, 0, -15, 12);
-        actDue(withPart(2, PART, 1), BOUNDS, 9, -9, 12);
-        actDue(withPart(2, PART, 1), BOUNDS, LEAST, LEAST, 12);
-        actDue(withPart(0, PART, 0), BOUNDS, 9, -15, 12);
-        actDue(withPart(9, PART, 9), BOUNDS, 9, -15, 12);
-        actDue(withPart(2, LOOSE, 2), BOUNDS, 9, -15, 50, 12);
-        actDue(withPart(2, SHORT, 2), BOUNDS, 9, -15, 61, 50, 12);
-        actDue(withPart(2, DRIFTING, 2), TELLS, 9, -15, 40, 13, 11, 10, 12);
+        HostTest.actDue(x, BOUNDS, 2, 0, 12);
+        HostTest.actDue(x, BOUNDS, 3, 1, 12);
+        HostTest.actDue(x, BOUNDS, -2, 0, 12);
+        HostTest.actDue(x, BOUNDS, -3, -1, 12);
+        HostTest.actDue(withPart(2, PART, 3), BOUNDS, 9, 9, 12);
+        HostTest.actDue(withPart(2, PART, 2), BOUNDS, 9, -15, 12);
+        HostTest.actDue(withPart(2, PART, 2), BOUNDS, 0, -15, 12);
+        HostTest.actDue(withPart(2, PART, 1), BOUNDS, 9, -9, 12);
+        HostTest.actDue(withPart(2, PART, 1), BOUNDS, LEAST, LEAST, 12);
+        HostTest.actDue(withPart(0, PART, 0), BOUNDS, 9, -15, 12);
+        HostTest.actDue(withPart(9, PART, 9), BOUNDS, 9, -15, 12);
+        HostTest.actDue(withPart(2, LOOSE, 2), BOUNDS, 9, -15, 50, 12);
+        HostTest.actDue(withPart(2, SHORT, 2), BOUNDS, 9, -15, 61, 50, 12);
+        HostTest.actDue(withPart(2, DRIFTING, 2), TELLS, 9, -15, 40, 13, 11, 10, 12);
         LoosePlug same = withPart(2, PART, 2);
-        actDue(same, BOUNDS, 9, -15, 12);
-        actDue(same, TAKES, 9, 11, 10);
-        actDue(withPart(2, PART, 17), BOUNDS, -225, -15, 12);
+        HostTest.actDue(same, BOUNDS, 9, -15, 12);
+        HostTest.actDue(same, TAKES, 9, 11, 10);
+        HostTest.actDue(withPart(2, PART, 17), BOUNDS, -225, -15, 12);
         Sentence.says("13 tells: shares(x) ^ a.");
-        actDue(x, TELLS, 7, 18 ^ 5, 13, 11, 10);
-        actDue(x, TELLS, -7, -10 ^ 5, 13, 11, 10);
+        HostTest.actDue(x, TELLS, 7, 18 ^ 5, 13, 11, 10);
+        HostTest.actDue(x, TELLS, -7, -10 ^ 5, 13, 11, 10);
     }
 
     /** n is 2 and a is 5 throughout. */
     private static void bodiesOfKinds() {
         Sentence.says("tried: 20 shares: super.shares(x) - a.");
         LoosePlug x = withPart(2, TRIED, 5);
-        actDue(x, TAKES, 7, 9, 10);
-        actDue(x, SHARES, 7, 13, 20, 11, 10);
-        actDue(x, BOUNDS, 7, 2, 12);
-        actDue(x, TELLS, 7, 13 ^ 5, 13, 20, 11, 10);
+        HostTest.actDue(x, TAKES, 7, 9, 10);
+        HostTest.actDue(x, SHARES, 7, 13, 20, 11, 10);
+        HostTest.actDue(x, BOUNDS, 7, 2, 12);
+        HostTest.actDue(x, TELLS, 7, 13 ^ 5, 13, 20, 11, 10);
         Sentence.says("taken: 30 takes: super.takes(x) * 3.");
         x = withPart(2, TAKEN, 5);
-        actDue(x, TAKES, 7, 27, 30, 10);
-        actDue(x, SHARES, 7, 54, 11, 30, 10);
-        actDue(x, BOUNDS, 7, 2, 12);
-        actDue(x, TELLS, 7, 54 ^ 5, 13, 11, 30, 10);
+        HostTest.actDue(x, TAKES, 7, 27, 30, 10);
+        HostTest.actDue(x, SHARES, 7, 54, 11, 30, 10);
+        HostTest.actDue(x, BOUNDS, 7, 2, 12);
+        HostTest.actDue(x, TELLS, 7, 54 ^ 5, 13, 11, 30, 10);
         Sentence.says("drifting: 40 tells: super.tells(x) + bounds(n).");
         x = withPart(2, DRIFTING, 4);
-        actDue(x, TAKES, 7, 9, 10);
-        actDue(x, SHARES, 7, 18, 11, 10);
-        actDue(x, BOUNDS, 7, 3, 12);
-        actDue(x, TELLS, 7, (18 ^ 4) + 1, 40, 13, 11, 10, 12);
+        HostTest.actDue(x, TAKES, 7, 9, 10);
+        HostTest.actDue(x, SHARES, 7, 18, 11, 10);
+        HostTest.actDue(x, BOUNDS, 7, 3, 12);
+        HostTest.actDue(x, TELLS, 7, (18 ^ 4) + 1, 40, 13, 11, 10, 12);
         Sentence.says("loose: 50 bounds: super.bounds(x + 2) ^ 1. 51 takes: 0 - super.takes(x).");
         x = withPart(2, LOOSE, 5);
-        actDue(x, TAKES, 7, -9, 51, 10);
-        actDue(x, SHARES, 7, -18, 11, 51, 10);
-        actDue(x, BOUNDS, 6, 2 ^ 1, 50, 12);
-        actDue(x, BOUNDS, 7, 3 ^ 1, 50, 12);
-        actDue(x, TELLS, 7, -18 ^ 5, 13, 11, 51, 10);
+        HostTest.actDue(x, TAKES, 7, -9, 51, 10);
+        HostTest.actDue(x, SHARES, 7, -18, 11, 51, 10);
+        HostTest.actDue(x, BOUNDS, 6, 2 ^ 1, 50, 12);
+        HostTest.actDue(x, BOUNDS, 7, 3 ^ 1, 50, 12);
+        HostTest.actDue(x, TELLS, 7, -18 ^ 5, 13, 11, 51, 10);
         Sentence.says("short: 60 shares: super.shares(x) + takes(a). 61 bounds: super.bounds(x) * 2.");
         x = withPart(2, SHORT, 5);
-        actDue(x, TAKES, 7, -9, 51, 10);
-        actDue(x, SHARES, 7, -18 - 7, 60, 11, 51, 10, 51, 10);
-        actDue(x, BOUNDS, 6, (2 ^ 1) * 2, 61, 50, 12);
-        actDue(x, BOUNDS, 7, (3 ^ 1) * 2, 61, 50, 12);
-        actDue(x, TELLS, 7, -25 ^ 5, 13, 60, 11, 51, 10, 51, 10);
+        HostTest.actDue(x, TAKES, 7, -9, 51, 10);
+        HostTest.actDue(x, SHARES, 7, -18 - 7, 60, 11, 51, 10, 51, 10);
+        HostTest.actDue(x, BOUNDS, 6, (2 ^ 1) * 2, 61, 50, 12);
+        HostTest.actDue(x, BOUNDS, 7, (3 ^ 1) * 2, 61, 50, 12);
+        HostTest.actDue(x, TELLS, 7, -25 ^ 5, 13, 60, 11, 51, 10, 51, 10);
         Sentence.says("other: 70 takes: super.takes(x) - 4. 71 tells: super.tells(x) ^ shares(n).");
         x = withPart(2, OTHER, 5);
-        actDue(x, TAKES, 7, 5, 70, 10);
-        actDue(x, SHARES, 7, 5, 20, 11, 70, 10);
-        actDue(x, BOUNDS, 7, 2, 12);
-        actDue(x, TELLS, 7, 5 ^ 5 ^ -5, 71, 13, 20, 11, 70, 10, 20, 11, 70, 10);
-        actDue(withPart(2, OTHER, 4), TELLS, 9, 10 ^ 4 ^ -4, 71, 13, 20, 11, 70, 10, 20, 11, 70, 10);
+        HostTest.actDue(x, TAKES, 7, 5, 70, 10);
+        HostTest.actDue(x, SHARES, 7, 5, 20, 11, 70, 10);
+        HostTest.actDue(x, BOUNDS, 7, 2, 12);
+        HostTest.actDue(x, TELLS, 7, 5 ^ 5 ^ -5, 71, 13, 20, 11, 70, 10, 20, 11, 70, 10);
+        HostTest.actDue(withPart(2, OTHER, 4), TELLS, 9, 10 ^ 4 ^ -4, 71, 13, 20, 11, 70, 10, 20, 11, 70, 10);
     }
 
     private static void theTrace() {
-        Sentence.says("THE TRACE: numbers of the bodies that ran in the latest act(), as they began (left first); the first 30 are kept.");
+        Sentence.says("THE TRACE: numbers of the bodies that ran in the latest act(), as they began (left first); the "
+                + "first 30 are kept.");
         LoosePlug x = withPart(2, SHORT, 5);
         Check.due("none yet", x.many(6), 0);
-        actDue(x, TELLS, 1, (-6 - 7) ^ 5, 13, 60, 11, 51, 10, 51, 10);
-        actDue(x, TAKES, 1, -3, 51, 10);
+        HostTest.actDue(x, TELLS, 1, (-6 - 7) ^ 5, 13, 60, 11, 51, 10, 51, 10);
+        HostTest.actDue(x, TAKES, 1, -3, 51, 10);
         Check.due("what was there goes", x.trace(2), NONE);
         Check.due("other calls leave it", x.taken(0, 0), 2);
         Check.due("a look leaves it", x.trace(0), 51);
@@ -173,7 +165,8 @@ final class EdgesOfHost {
     }
 
     private static void sheets() {
-        Sentence.says("SHEETS 0 to 3 are rows of bytes (sort 0), shorts (1), ints (2) or longs (3), 40 at most, or missing (at first).");
+        Sentence.says("SHEETS 0 to 3 are rows of bytes (sort 0), shorts (1), ints (2) or longs (3), 40 at most, or missing "
+                + "(at first).");
         LoosePlug x = new LoosePlug();
         int[] values = {127, 128, -128, -129, 32767, 32768, -32768, -32769, MOST, LEAST, -1};
         for (int sheet = 0; sheet < 4; sheet++) {
@@ -198,7 +191,8 @@ final class EdgesOfHost {
     }
 
     private static void shelves() {
-        Sentence.says("SHELVES 0 to 3 hold a PART (nothing, if there is no such PART any more), a SHEET's row, or nothing (at first).");
+        Sentence.says("SHELVES 0 to 3 hold a PART (nothing, if there is no such PART any more), a SHEET's row, or nothing "
+                + "(at first).");
         LoosePlug x = new LoosePlug();
         for (int shelf = 0; shelf < 4; shelf++) {
             Check.due("nothing at first", x.taken(shelf, 0), -11);

@@ -142,7 +142,8 @@ final class EdgesOfHouses {
     }
 
     private static void openOnes() {
-        Sentence.says("At most 4 of not, ( and - (ahead of an AT) are open within one another (each till what it is ahead of ends; ( till its ) ).");
+        Sentence.says("At most 4 of not, ( and - (ahead of an AT) are open within one another (each till what it is ahead "
+                + "of ends; ( till its ) ).");
         Check.houseDue("not not not not 1=1", 0);
         Check.houseDue("not not not not not 1=1", -116);
         Check.houseDue("((((1=1))))", 0);
@@ -194,14 +195,6 @@ final class EdgesOfHouses {
         ruleDue("2147*1000*1000+483*1000+647+1<2147*1000*1000+483*1000+647", true);
     }
 
-    private static LoosePlug onDay(int day) {
-        LoosePlug x = new LoosePlug();
-        for (int left = day; left > 0; left -= Math.min(99, left)) {
-            x.later(Math.min(99, left));
-        }
-        return x;
-    }
-
     /** A fact is told by fact() and by its word in a rule alike. */
     private static void factDue(LoosePlug x, String word, int which, int want) {
         Check.due(word, x.fact(which), want);
@@ -214,7 +207,7 @@ final class EdgesOfHouses {
     private static void facts() {
         Sentence.says("FACTS: day; runs: how many RUNS;");
         factDue(new LoosePlug(), "day", 0, 0);
-        factDue(onDay(999), "day", 0, 999);
+        factDue(Check.onDay(999), "day", 0, 999);
         LoosePlug x = new LoosePlug();
         factDue(x, "runs", 1, 0);
         for (int r = 0; r < 40; r++) {
@@ -235,7 +228,7 @@ final class EdgesOfHouses {
         factDue(y, "soon", 2, 0);
         y.older(0, 0, 9);
         factDue(y, "soon", 2, 2);
-        LoosePlug last = onDay(999);
+        LoosePlug last = Check.onDay(999);
         last.older(0, 0, 5);
         last.older(999, 0, 8);
         factDue(last, "soon", 2, 6);
@@ -322,7 +315,7 @@ final class EdgesOfHouses {
         Check.due("used up", x.many(5), 0);
 
         Sentence.says("A FACT (0 day, 1 runs, 2 soon, 3 tried, 4 spent, 5 miss, 6 signed: none yet). NO.");
-        LoosePlug y = onDay(12);
+        LoosePlug y = Check.onDay(12);
         y.part(0, 3, 1, 1, 7);
         y.tryout(0, false);
         y.older(0, 0, -5);

@@ -29,31 +29,25 @@ final class EdgesOfRows {
         return x;
     }
 
-    private static void rowDue(LoosePlug x, int i, int part, int late, int sum) {
-        Check.due("row " + i + " part", x.row(i, 0), part);
-        Check.due("row " + i + " late", x.row(i, 1), late);
-        Check.due("row " + i + " sum", x.row(i, 2), sum);
-    }
-
     private static void rows() {
         Sentence.says("ROWS of a WAY: (PART, TAKES today less BELIEVED, the sum so far) of the PARTS of the WAY, by numbers.");
         LoosePlug x = chain();
         Check.due("way 0", x.prove(0), 3);
-        rowDue(x, 0, 0, 5, 5);
-        rowDue(x, 1, 2, -18, -13);
-        rowDue(x, 2, 3, 400, 387);
+        RowTest.rowDue(x, 0, 0, 5, 5);
+        RowTest.rowDue(x, 1, 2, -18, -13);
+        RowTest.rowDue(x, 2, 3, 400, 387);
         Check.due("way 1", x.prove(1), 2);
-        rowDue(x, 0, 1, 0, 0);
-        rowDue(x, 1, 2, -18, -18);
+        RowTest.rowDue(x, 0, 1, 0, 0);
+        RowTest.rowDue(x, 1, 2, -18, -18);
         Check.due("no more", x.row(2, 0), NO);
         x.later(1);
-        rowDue(x, 0, 1, 0, 0);
+        RowTest.rowDue(x, 0, 1, 0, 0);
         x.prove(1);
-        rowDue(x, 0, 1, 70, 70);
-        rowDue(x, 1, 2, -21, 49);
+        RowTest.rowDue(x, 0, 1, 70, 70);
+        RowTest.rowDue(x, 1, 2, -21, 49);
         x.tryout(1, false);
         x.prove(1);
-        rowDue(x, 0, 1, 0, 0);
+        RowTest.rowDue(x, 0, 1, 0, 0);
         Check.due("no part at all", new LoosePlug().prove(0), 0);
         LoosePlug y = new LoosePlug();
         for (int i = 0; i < 10; i++) {
@@ -61,7 +55,7 @@ final class EdgesOfRows {
             y.fail(i, -500, 0);
         }
         Check.due("ten", y.prove(1), 10);
-        rowDue(y, 9, 9, -500, -5000);
+        RowTest.rowDue(y, 9, 9, -500, -5000);
         Check.due("no eleventh", y.row(10, 0), NO);
     }
 
@@ -121,7 +115,7 @@ final class EdgesOfRows {
         Check.due("so many there are", x.many(4), 2);
 
         Sentence.says("Of ROW i: what = 0 PART, 1 TAKES less BELIEVED, 2 the sum. NO: there is none such, another what.");
-        rowDue(x, 1, 2, -18, -18);
+        RowTest.rowDue(x, 1, 2, -18, -18);
         int[] rows = {-1, 10, LEAST, MOST};
         for (int i : rows) {
             Refused.always("row(" + i + ", 0)", NO, p -> p.row(i, 0));
@@ -142,8 +136,8 @@ final class EdgesOfRows {
         Check.due("the part", x.alterRow(2, 0, LEAST), 3);
         Check.due("late", x.alterRow(2, 1, MOST), 400);
         Check.due("the sum", x.alterRow(2, 2, -7), 387);
-        rowDue(x, 2, LEAST, MOST, -7);
-        rowDue(x, 1, 2, -18, -13);
+        RowTest.rowDue(x, 2, LEAST, MOST, -7);
+        RowTest.rowDue(x, 1, 2, -18, -13);
         Check.due("what it was", x.alterRow(2, 0, 3), LEAST);
         int[] rows = {-1, 10, LEAST, MOST};
         for (int i : rows) {

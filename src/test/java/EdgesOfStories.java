@@ -26,7 +26,6 @@ final class EdgesOfStories {
         promises18to21();
     }
 
-    /** The tape's end, behind words that would be a story: what is wrong there is told by its place. */
     private static void theTape() {
         Sentence.says("TEXTS. THE TAPE takes bytes, 200 at most; story() and house() use it up.");
         LoosePlug x = new LoosePlug();
@@ -224,18 +223,9 @@ final class EdgesOfStories {
         Check.due("eight", y.many(2), 8);
     }
 
-    /** Parts 0, 1 and 2 are in way 0, in way 1, in both; they cost 5, 3 and 3 hours. */
-    private static LoosePlug threeParts() {
-        LoosePlug x = new LoosePlug();
-        x.part(0, 1, 10, 1, 5);
-        x.part(0, 2, 10, 1, 3);
-        x.part(0, 3, 10, 1, 3);
-        return x;
-    }
-
     private static void whatAStoryGives() {
         Sentence.says("It GIVES for a WAY on a day: nothing 0; light its INT;");
-        LoosePlug x = threeParts();
+        LoosePlug x = StoryTest.threeParts();
         Check.story(x, "nothing", 1);
         Check.story(x, "light by 9999", 1);
         Check.story(x, "light by -9999", 1);
@@ -269,8 +259,9 @@ final class EdgesOfStories {
     }
 
     private static void whatATrialWouldFind() {
-        Sentence.says("A TRIAL of a PART on a day WOULD FIND by a STORY: the sum of INTS of CLAUSES of that PART with from so; of others 0.");
-        LoosePlug x = threeParts();
+        Sentence.says("A TRIAL of a PART on a day WOULD FIND by a STORY: the sum of INTS of CLAUSES of that PART with from "
+                + "so; of others 0.");
+        LoosePlug x = StoryTest.threeParts();
         Check.story(x, "nothing", 1);
         Check.story(x, "light by 9", 1);
         Check.story(x, "part 1 by 20 from 2 and part 1 by -3 and part 0 by 8 and part 1 by 500 from 3", 1);
@@ -291,7 +282,7 @@ final class EdgesOfStories {
 
     private static void missAndLikely() {
         Sentence.says("MISS: over all RUNS the sum of how far SOON is from what the STORY GIVES for its WAY and day.");
-        LoosePlug x = threeParts();
+        LoosePlug x = StoryTest.threeParts();
         x.later(10);
         Check.story(x, "nothing", 1);
         Check.story(x, "part 2 by 10 from 5 and part 0 by 100", 1);
@@ -376,7 +367,7 @@ final class EdgesOfStories {
 
     private static void partsThatPart() {
         Sentence.says("A PART PARTS two STORIES on THE DAY, if a TRIAL of it WOULD FIND unlike numbers by them.");
-        LoosePlug x = threeParts();
+        LoosePlug x = StoryTest.threeParts();
         Check.story(x, "part 0 by 5", 1);
         Check.story(x, "part 0 by 5 from 2", 1);
         Check.story(x, "light by 5", 1);
@@ -398,7 +389,7 @@ final class EdgesOfStories {
 
         Sentence.says("NEXT of a set of STORIES: the PART that PARTS the most twos of them; of several that with the fewest HOURS, "
                 + "then the least number; none if none PARTS any.");
-        LoosePlug y = threeParts();
+        LoosePlug y = StoryTest.threeParts();
         Check.story(y, "part 0 by 1", 1);
         Check.story(y, "part 0 by 2 and part 1 by 1", 1);
         Check.story(y, "part 0 by 3 and part 2 by 1", 1);
@@ -574,7 +565,7 @@ final class EdgesOfStories {
         Refused.in(Refused.World.MIDDLE, "odds of a story that isn't yet", BAD, p -> p.odds(3, 1));
 
         Sentence.says("WAYS (as bits) in which two STORIES GIVE the same on a day. BAD.");
-        LoosePlug y = threeParts();
+        LoosePlug y = StoryTest.threeParts();
         Check.story(y, "part 0 by 5 from 3", 1);
         Check.story(y, "part 1 by 5 from 999", 1);
         Check.story(y, "light by 5", 1);
@@ -594,7 +585,8 @@ final class EdgesOfStories {
         Refused.in(Refused.World.MIDDLE, "same of a story that isn't yet", BAD, p -> p.same(3, 0, 0));
         Refused.in(Refused.World.MIDDLE, "same with a story that isn't yet", BAD, p -> p.same(0, 3, 0));
 
-        Sentence.says("NEXT of a set of STORIES: what = 0 the PART, 1 how many twos it PARTS. BAD: others than STORIES in the set, what; NONE.");
+        Sentence.says("NEXT of a set of STORIES: what = 0 the PART, 1 how many twos it PARTS. BAD: others than STORIES in "
+                + "the set, what; NONE.");
         Check.due("the part", y.next(7, 0), NONE);
         y.later(3);
         Check.due("the part", y.next(7, 0), 0);

@@ -129,11 +129,7 @@ final class EdgesOfSure {
     }
 
     private static LoosePlug told(int[]... runs) {
-        LoosePlug x = new LoosePlug();
-        for (int k = 0; k < 10; k++) {
-            x.later(99);
-        }
-        x.later(9);
+        LoosePlug x = Check.onDay(999);
         for (int[] run : runs) {
             x.older(run[0], 1, run[1]);
         }
@@ -174,7 +170,8 @@ final class EdgesOfSure {
         jumpDue("6 | 3 1", told(new int[] {1, 6}, new int[] {2, 3}, new int[] {3, 1}), 1, 2, -4, 1);
         jumpDue("0 0 0 | 1", told(new int[] {1, 0}, new int[] {2, 0}, new int[] {3, 0}, new int[] {4, 1}), 1, 4, 1, 1);
         jumpDue("no rise", told(new int[] {1, 5}, new int[] {2, 5}, new int[] {3, 5}), 1, 2, 0, 1);
-        Sentence.says("JUMP is the cut with the greatest RISE without sign, of several the first: the day of the first one behind, and RISE.");
+        Sentence.says("JUMP is the cut with the greatest RISE without sign, of several the first: the day of the first one "
+                + "behind, and RISE.");
         jumpDue("a fall as far as the rise behind it", told(new int[] {1, 0}, new int[] {2, -6}, new int[] {3, 0}), 1, 2, -3, 1);
         jumpDue("a rise as far as the fall behind it", told(new int[] {1, 0}, new int[] {2, 6}, new int[] {3, 0}), 1, 2, 3, 1);
         jumpDue("the second further", told(new int[] {1, 0}, new int[] {2, 6}, new int[] {3, -1}), 1, 3, -4, 1);
@@ -256,7 +253,8 @@ final class EdgesOfSure {
     }
 
     private static void promises26and27() {
-        Sentence.says("JUMP: what = 0 the day, 1 RISE above the line, 2 below it. NO: no such WAY, what, fewer than two RUNS of it.");
+        Sentence.says("JUMP: what = 0 the day, 1 RISE above the line, 2 below it. NO: no such WAY, what, fewer than two "
+                + "RUNS of it.");
         LoosePlug x = told(new int[] {7, 1}, new int[] {8, 3}, new int[] {9, 4});
         jumpDue("5 by 2", x, 1, 8, 5, 2);
         int[] whats = {-1, 3, LEAST, MOST};

@@ -15,14 +15,29 @@ final class EdgesOfTerms {
         lastCall();
     }
 
-    /** Every refusal of a promise is tested where that promise is; here that the twins' views see each thing change. */
+    /** Every refusal is tested where its promise is; here one of each call that can change something, and its other side. */
     private static void refusals() {
         Sentence.says("Answers below 0, where not told otherwise, are refusals; such a call changes nothing");
-        Refused.always("part", BAD, x -> x.part(7, 1, 1, 1, 1));
-        Refused.always("later", BAD, x -> x.later(0));
-        Refused.always("put", BAD, x -> x.put(4, 0, 1));
+        bothSides("part", BAD, x -> x.part(0, 4, 1, 1, 1), x -> x.part(0, 3, 1, 1, 1));
+        bothSides("fail", NO, x -> x.fail(5, 1, 0), x -> x.fail(4, 1, 0));
+        bothSides("later", BAD, x -> x.later(0), x -> x.later(1));
+        bothSides("noise", BAD, x -> x.noise(21), x -> x.noise(20));
+        bothSides("run", BAD, x -> x.run(2), x -> x.run(1));
+        bothSides("older", BAD, x -> x.older(41, 0, 0), x -> x.older(40, 0, 0));
+        bothSides("tryout", NO, x -> x.tryout(5, false), x -> x.tryout(4, false));
+        bothSides("feed", BAD, x -> x.feed(0, 0), x -> x.feed(0, 1));
+        bothSides("story", BAD, x -> x.story(0), x -> x.story(1));
+        bothSides("prove", BAD, x -> x.prove(2), x -> x.prove(1));
+        bothSides("alterRow", NO, x -> x.alterRow(4, 2, 99), x -> x.alterRow(1, 2, 99));
+        bothSides("sheet", -14, x -> x.sheet(0, 0, -1), x -> x.sheet(0, 0, 0));
+        bothSides("put", -12, x -> x.put(0, 3, 1), x -> x.put(0, 2, 1));
+        bothSides("shelf", BAD, x -> x.shelf(0, 0, 5), x -> x.shelf(0, 0, 3));
+        Refused.notRefused(Refused.World.MIDDLE, "lots", x -> x.lots(5));
+        Refused.notRefused(Refused.World.MIDDLE, "act", x -> x.act(0, 0, 9));
+        Refused.notRefused(Refused.World.MIDDLE, "keep", LoosePlug::keep);
+        Refused.notRefused(Refused.World.MIDDLE, "back", LoosePlug::back);
         Refused.in(Refused.World.NEW, "back", NONE, LoosePlug::back);
-        Refused.in(Refused.World.FULL, "run", FULL, x -> x.run(0));
+        Refused.notRefused(Refused.World.NEW, "house", x -> Check.house(x, "1=1"));
         Sentence.says("(but that THE TAPE is used up by story() and house());");
         Refused.butTape(Refused.World.NEW, "a story of nothing at all", -100, x -> x.story(1));
         Refused.butTape(Refused.World.NEW, "a rule of nothing at all", -100, LoosePlug::house);
@@ -31,6 +46,11 @@ final class EdgesOfTerms {
             return x.story(1);
         });
         Refused.butTape(Refused.World.MIDDLE, "a rule that goes wrong", -100, LoosePlug::house);
+    }
+
+    private static void bothSides(String call, long due, Refused.Ask refused, Refused.Ask taken) {
+        Refused.in(Refused.World.MIDDLE, call, due, refused);
+        Refused.notRefused(Refused.World.MIDDLE, call, taken);
     }
 
     private static void firstNamed() {

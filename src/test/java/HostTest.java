@@ -148,7 +148,8 @@ final class HostTest {
         Check.due("shelf -1", x.taken(-1, 0), BAD);
     }
 
-    private static void actDue(LoosePlug x, int act, int v, int want, int... bodies) {
+    /** What act() of shelf 0 answers, and which bodies ran. */
+    static void actDue(LoosePlug x, int act, int v, int want, int... bodies) {
         String call = "act(0, " + act + ", " + v + ")";
         Check.due(call, x.act(0, act, v), want);
         Check.due(call + " bodies", x.many(6), bodies.length);

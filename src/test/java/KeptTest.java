@@ -10,12 +10,13 @@ final class KeptTest {
         Check.end();
     }
 
-    private static LoosePlug world() {
+    static LoosePlug world() {
         LoosePlug x = new LoosePlug();
         x.part(0, 3, 100, 7, 2);
         x.part(4, 1, 50, 3, 9);
         x.later(4);
         x.fail(0, 6, 2);
+        x.fail(1, 8, 5);
         x.tryout(1, true);
         x.noise(20);
         x.lots(1);
@@ -25,35 +26,35 @@ final class KeptTest {
         return x;
     }
 
-    private static void worldDue(LoosePlug x) {
+    static void worldDue(LoosePlug x) {
         int[] many = {2, 1, 1, 1};
         for (int what = 0; what < 4; what++) {
             Check.due("many(" + what + ")", x.many(what), many[what]);
         }
         Check.due("the day", x.many(7), 4);
-        int[] first = {0, 3, 100, 7, 2, 100, 0};
-        int[] second = {4, 1, 50, 3, 9, 50, 1};
+        int[][] parts = {{0, 3, 100, 7, 2, 100, 0}, {4, 1, 50, 3, 9, 50, 1}};
         for (int what = 0; what < 7; what++) {
-            Check.due("part 0", x.of(0, what), first[what]);
-            Check.due("part 1", x.of(1, what), second[what]);
+            Check.due("part 0, what " + what, x.of(0, what), parts[0][what]);
+            Check.due("part 1, what " + what, x.of(1, what), parts[1][what]);
         }
-        Check.due("part 2", x.of(2, 0), NO);
-        Check.due("run 0 day", x.ran(0, 0), 1);
-        Check.due("run 0 way", x.ran(0, 1), 1);
-        Check.due("run 0 soon", x.ran(0, 2), 33);
+        int[] run = {1, 1, 33};
+        for (int what = 0; what < 3; what++) {
+            Check.due("run 0, what " + what, x.ran(0, what), run[what]);
+        }
+        Check.due("no part 2", x.of(2, 0), NO);
+        Check.due("no run 1", x.ran(1, 0), NO);
         Check.due("spent", x.fact(4), 9);
-        Check.due("story", x.gives(0, 0, 2), 3);
-        Check.due("house", x.sign(), 1);
-        Check.due("odds", x.odds(0, 1), 1);
-        // The failing and the draw show in a run, the noise when it is set.
+        Check.due("the story", x.gives(0, 0, 2), 3);
+        Check.due("the house", x.sign(), 1);
         x.run(0);
-        Check.due("off and draw", x.ran(1, 2), 6 + 8);
+        Check.due("off, and the first draw", x.ran(1, 2), 6 + 8);
+        x.later(1);
         x.run(0);
-        Check.due("the second draw", x.ran(2, 2), 6 + 7);
+        Check.due("from day 5 on, and the second draw", x.ran(2, 2), 6 + 8 + 7);
         Check.due("noise", x.noise(3), 20);
     }
 
-    private static void spoil(LoosePlug x) {
+    static void spoil(LoosePlug x) {
         x.later(50);
         x.part(1, 1, 1, 1, 1);
         x.fail(0, -400, 0);

@@ -176,6 +176,10 @@ final class ModelTest {
     }
 
     private void ask(String name, Class<?>[] types, Object[] given) throws Exception {
+        // A text may need more calls than are left.
+        if (asked.size() == CALLS) {
+            return;
+        }
         String call = name + Arrays.toString(given);
         asked.add(call);
         long want = answer(SlowPlug.class.getMethod(name, types), slow, given);

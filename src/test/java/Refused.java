@@ -59,6 +59,17 @@ final class Refused {
         }
     }
 
+    /** The other side: a call that is not refused, and what it changes is seen. */
+    static void notRefused(World world, String call, Ask ask) {
+        boolean seen = false;
+        for (View view : View.values()) {
+            LoosePlug x = make(world);
+            Check.holds(world + ": " + call + " is not refused", ask.of(x) >= 0);
+            seen |= !see(view, x).equals(untouched(world, view));
+        }
+        Check.holds(world + ": what " + call + " changes is seen", seen);
+    }
+
     private static List<Long> untouched(World world, View view) {
         return UNTOUCHED.computeIfAbsent(world, w -> new EnumMap<>(View.class))
                 .computeIfAbsent(view, v -> see(v, make(world)));

@@ -25,7 +25,7 @@ final class RowTest {
         return x;
     }
 
-    private static void rowDue(LoosePlug x, int i, int part, int late, int sum) {
+    static void rowDue(LoosePlug x, int i, int part, int late, int sum) {
         Check.due("row " + i + " part", x.row(i, 0), part);
         Check.due("row " + i + " late", x.row(i, 1), late);
         Check.due("row " + i + " sum", x.row(i, 2), sum);

@@ -111,7 +111,8 @@ final class StoryTest {
         Check.storyDue("\u00e9", -100);
     }
 
-    private static LoosePlug threeParts() {
+    /** Parts 0, 1 and 2 are in way 0, in way 1, in both; they cost 5, 3 and 3 hours. */
+    static LoosePlug threeParts() {
         LoosePlug x = new LoosePlug();
         x.part(0, 1, 10, 1, 5);
         x.part(0, 2, 10, 1, 3);

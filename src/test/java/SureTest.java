@@ -79,13 +79,11 @@ final class SureTest {
     private static void promise25() {
         int[] spans = {0, 1, 5, 5, 99, 7, 30};
         int[] ways = {3, 1, 3, 2, 1, 3, 2};
-        LoosePlug x = new LoosePlug();
-        for (int i = 0; i < spans.length; i++) {
-            x.part(0, ways[i], 1, spans[i], 1);
-        }
+        LoosePlug x = chain(spans, ways);
         for (int way = 0; way < 2; way++) {
+            LoosePlug y = chain(spans, ways);
             for (int v = -210; v <= 210; v++) {
-                Check.due("fits(" + way + ", " + v + ")", x.fits(way, v), rows(spans, ways, way, v));
+                Check.due("fits(" + way + ", " + v + ")", y.fits(way, v), rows(spans, ways, way, v));
             }
         }
         Check.due("9999", x.fits(0, 9999), 0);
@@ -95,6 +93,14 @@ final class SureTest {
         Check.due("most", x.fits(0, Integer.MAX_VALUE), BAD);
         Check.due("way 2", x.fits(2, 0), BAD);
         Check.due("way -1", x.fits(-1, 0), BAD);
+    }
+
+    private static LoosePlug chain(int[] spans, int[] ways) {
+        LoosePlug x = new LoosePlug();
+        for (int i = 0; i < spans.length; i++) {
+            x.part(0, ways[i], 1, spans[i], 1);
+        }
+        return x;
     }
 
     private static int rows(int[] spans, int[] ways, int way, int x) {

@@ -110,7 +110,9 @@ final class EdgesOfHouses {
         Check.houseDue("+1=1", -100);
         Check.houseDue("1=1+", -104);
         Check.houseDue("1" + "+1".repeat(98) + "=99", 0);
-        Check.houseDue("-1" + "+1".repeat(98) + "=1", 0);
+        LoosePlug tokens = new LoosePlug();
+        Check.due("a rule of 200 tokens", Check.house(tokens, "-1" + "+1".repeat(98) + ">1"), 0);
+        Check.due("holds", tokens.holds(0, 0), 1);
         Check.houseDue("-1" + "+1".repeat(98) + "=+", -299);
         Check.houseDue("1,1=1", -101);
         Sentence.says("TERM: AT { * AT }.");

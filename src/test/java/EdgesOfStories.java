@@ -188,6 +188,12 @@ final class EdgesOfStories {
         }
         Check.story(x, four, 1);
         Check.due("all four count", x.gives(0, 0, 0), 10);
+        Check.story(x, "part 1 by 1 and part 2 by 2 and part 3 by 3", 1);
+        Check.story(x, "part 1 by 1 and part 2 by 2", 1);
+        Check.story(x, "part 1 by 1", 1);
+        Check.due("three, where there were four once", x.gives(1, 0, 0), 6);
+        Check.due("two", x.gives(2, 0, 0), 3);
+        Check.due("one", x.gives(3, 0, 0), 1);
         Sentence.says("CLAUSE: part NUMBER by INT [from NUMBER].");
         Check.storyDue("part 1 by 2 from 3", 0);
         Check.storyDue("part by 2", -105);
